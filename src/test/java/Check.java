@@ -1,0 +1,73 @@
+/** Counts and prints answers that are not the ones that are due. */
+final class Check {
+    private static int wrong = 0;
+    private static int done = 0;
+
+    private Check() {
+    }
+
+    static void same(String what, long got, long due) {
+        done++;
+        if (got != due) {
+            report(what + " answered " + got + ", due is " + due);
+        }
+    }
+
+    static void same(String what, char got, char due) {
+        done++;
+        if (got != due) {
+            report(what + " answered '" + got + "', due is '" + due + "'");
+        }
+    }
+
+    static void sameDouble(String what, double got, double due) {
+        done++;
+        if (got != due) {
+            report(what + " answered " + got + ", due is " + due);
+        }
+    }
+
+    static void same(String what, String got, String due) {
+        done++;
+        if (!got.equals(due)) {
+            report(what + " answered " + got + ", due is " + due);
+        }
+    }
+
+    static void holds(String what, boolean got) {
+        done++;
+        if (!got) {
+            report(what + " does not hold");
+        }
+    }
+
+    /** The call must throw exactly the class that is due, and change nothing that can be asked. */
+    static void refuses(String what, ColdStore store, Class<?> due, Runnable call) {
+        done++;
+        String before = Snapshot.of(store);
+        try {
+            call.run();
+            report(what + " threw nothing, due is " + due.getSimpleName());
+        } catch (RuntimeException e) {
+            if (e.getClass() != due) {
+                report(what + " threw " + e.getClass().getName() + ", due is " + due.getSimpleName());
+            }
+        }
+        String after = Snapshot.of(store);
+        if (!after.equals(before)) {
+            report(what + " changed the store from " + before + " to " + after);
+        }
+    }
+
+    static void end() {
+        System.out.println(done + " checks, " + wrong + " wrong");
+        if (wrong != 0) {
+            System.exit(1);
+        }
+    }
+
+    private static void report(String text) {
+        wrong++;
+        System.out.println(text);
+    }
+}
