@@ -41,7 +41,7 @@ final class Check {
         }
     }
 
-    /** The call must throw exactly the class that is due, and change nothing that can be asked. */
+    /** The call must throw exactly the class that is due, by a throw of the store's own, and change nothing. */
     static void refuses(String what, ColdStore store, Class<?> due, Runnable call) {
         done++;
         String before = Snapshot.of(store);
@@ -51,6 +51,8 @@ final class Check {
         } catch (RuntimeException e) {
             if (e.getClass() != due) {
                 report(what + " threw " + e.getClass().getName() + ", due is " + due.getSimpleName());
+            } else if (!e.getStackTrace()[0].getClassName().startsWith("ColdStore")) {
+                report(what + " was thrown by " + e.getStackTrace()[0]);
             }
         }
         String after = Snapshot.of(store);

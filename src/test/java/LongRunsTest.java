@@ -10,6 +10,7 @@ public final class LongRunsTest {
     private final ColdStore store = new ColdStore();
     private final PlainStore plain = new PlainStore();
     private final int longestPass;
+    private int ordersMade = 0;
 
     private LongRunsTest(long seed) {
         this.seed = seed * 7919 + 17;
@@ -74,8 +75,6 @@ public final class LongRunsTest {
     private int pallet() {
         return pick(Math.max(1, Integer.parseInt(plain.pallets())));
     }
-
-    private int ordersMade = 0;
 
     private static int count(String... answers) {
         int count = 1;

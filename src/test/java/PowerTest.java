@@ -14,6 +14,7 @@ public final class PowerTest {
         lead();
         leadRoundMidnight();
         leadWithoutTicks();
+        noDepthAtFirst();
         noPeakNoLead();
         orderOfPower();
         powerSkipsAndGoesOn();
@@ -257,6 +258,17 @@ public final class PowerTest {
         store.setPrices(10, 20, 3, 3);
         store.pass(1);
         Check.holds("3: the lower limit is raised to 45", !store.isCooled(0));
+    }
+
+    private static void noDepthAtFirst() {
+        ColdStore store = storeAt(51);
+        store.setPrices(10, 10, 0, 0);
+        store.pass(1);
+        Check.holds("8: nothing is raised in the peak", store.isCooled(0));
+        ColdStore ahead = storeAt(50);
+        ahead.setPrices(10, 10, 1, 1);
+        ahead.pass(1);
+        Check.holds("8: nothing is lowered ahead of the peak", !ahead.isCooled(0));
     }
 
     private static void noPeakNoLead() {
