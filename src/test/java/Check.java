@@ -30,7 +30,8 @@ final class Check {
     static void same(String what, String got, String due) {
         done++;
         if (!got.equals(due)) {
-            report(what + " answered " + got + ", due is " + due);
+            int from = Math.max(0, firstDifference(got, due) - 60);
+            report(what + " answered " + excerpt(got, from) + ", due is " + excerpt(due, from));
         }
     }
 
@@ -66,6 +67,20 @@ final class Check {
         if (wrong != 0) {
             System.exit(1);
         }
+    }
+
+    private static int firstDifference(String one, String other) {
+        int i = 0;
+        while (i < one.length() && i < other.length() && one.charAt(i) == other.charAt(i)) {
+            i++;
+        }
+        return i;
+    }
+
+    /** Long texts differ in some place that is lost in the whole of them. */
+    private static String excerpt(String text, int from) {
+        int end = Math.min(text.length(), from + 160);
+        return (from > 0 ? ".. " : "") + text.substring(Math.min(from, end), end) + (end < text.length() ? " .." : "");
     }
 
     private static void report(String text) {
