@@ -22,20 +22,8 @@ public final class OrdersTest {
         Check.end();
     }
 
-    /** A room that stays at 0, and kinds of the lives given, which lose 1 unit in each tick. */
-    private static ColdStore storeWith(int... lives) {
-        ColdStore store = new ColdStore();
-        store.setOutside(0);
-        store.addRoom(1, 1, 1);
-        store.addRoom(1, 1, 1);
-        for (int life : lives) {
-            store.addKind(life, 10, -10);
-        }
-        return store;
-    }
-
     private static void ordering() {
-        ColdStore store = storeWith(100, 50);
+        ColdStore store = Twins.steady(100, 50);
         store.pass(5);
         Check.refuses("33: no such kind", store, INDEX, () -> store.order(2, 1, 0, 10));
         Check.refuses("33: no such kind", store, INDEX, () -> store.order(-1, 0, 0, 0));
@@ -62,7 +50,7 @@ public final class OrdersTest {
     }
 
     private static void tooManyOrders() {
-        ColdStore store = storeWith(100);
+        ColdStore store = Twins.steady(100);
         for (int i = 0; i < 12; i++) {
             Check.same("33: the next", store.order(0, 1, 0, 1 + i), i);
         }
@@ -74,7 +62,7 @@ public final class OrdersTest {
     }
 
     private static void cancelling() {
-        ColdStore store = storeWith(100);
+        ColdStore store = Twins.steady(100);
         store.order(0, 1, 0, 1);
         store.order(0, 1, 0, 2);
         store.order(0, 1, 0, 3);
@@ -111,7 +99,7 @@ public final class OrdersTest {
     }
 
     private static void candidates() {
-        ColdStore store = storeWith(100, 100);
+        ColdStore store = Twins.steady(100, 100);
         store.order(0, 2, 0, 50);
         store.order(0, 2, 98, 50);
         store.order(1, 8, 0, 50);
@@ -161,7 +149,7 @@ public final class OrdersTest {
     }
 
     private static void shipping() {
-        ColdStore store = storeWith(100);
+        ColdStore store = Twins.steady(100);
         store.addPallet(0, 0);
         store.pass(10);
         store.addPallet(0, 1);
@@ -186,7 +174,7 @@ public final class OrdersTest {
     }
 
     private static void refusedShipping() {
-        ColdStore store = storeWith(100);
+        ColdStore store = Twins.steady(100);
         store.order(0, 2, 50, 60);
         Check.refuses("37: no candidate", store, UNABLE, () -> store.ship(0));
         store.addPallet(0, 0);
@@ -200,7 +188,7 @@ public final class OrdersTest {
     }
 
     private static void dueOrders() {
-        ColdStore store = storeWith(100, 200);
+        ColdStore store = Twins.steady(100, 200);
         store.addPallet(0, 0);
         store.addPallet(0, 0);
         store.order(0, 1, 0, 3);
@@ -227,7 +215,7 @@ public final class OrdersTest {
     }
 
     private static void dueAfterTheLoss() {
-        ColdStore store = storeWith(100);
+        ColdStore store = Twins.steady(100);
         store.addPallet(0, 0);
         store.order(0, 1, 99, 1);
         store.addPallet(0, 0);
@@ -241,7 +229,7 @@ public final class OrdersTest {
     }
 
     private static void orderOfDueOrders() {
-        ColdStore store = storeWith(100);
+        ColdStore store = Twins.steady(100);
         store.addPallet(0, 0);
         store.pass(1);
         store.addPallet(0, 0);
@@ -258,7 +246,7 @@ public final class OrdersTest {
     }
 
     private static void noLifePromised() {
-        ColdStore store = storeWith(1);
+        ColdStore store = Twins.steady(1);
         for (int i = 0; i < 8; i++) {
             store.addPallet(0, 0);
         }

@@ -452,21 +452,9 @@ public final class TickEdgesTest {
         Check.holds("28: those in rooms go on", store.life(1) < shipped);
     }
 
-    /** Kinds with the full lives given, which lose one unit in each tick, and two rooms for their pallets. */
-    private static ColdStore steady(int... lives) {
-        ColdStore store = new ColdStore();
-        store.setOutside(0);
-        store.addRoom(1, 1, 1);
-        store.addRoom(1, 1, 1);
-        for (int life : lives) {
-            store.addKind(life, 10, -10);
-        }
-        return store;
-    }
-
     private static void dueToTheTick() {
         for (int due : new int[] {1, 2, 95, 96, 97, 959, 960}) {
-            ColdStore store = steady(2000);
+            ColdStore store = Twins.steady(2000);
             store.addPallet(0, 0);
             store.order(0, 1, 0, due);
             store.order(0, 1, 0, due);
@@ -480,7 +468,7 @@ public final class TickEdgesTest {
     }
 
     private static void dueInTheMiddleOfPass() {
-        ColdStore store = steady(2000);
+        ColdStore store = Twins.steady(2000);
         for (int due : new int[] {1, 2, 95, 96, 97}) {
             store.addPallet(0, 0);
             store.order(0, 1, 0, due);
@@ -497,7 +485,7 @@ public final class TickEdgesTest {
     }
 
     private static void dueAtTheLastTime() {
-        ColdStore store = steady(2000);
+        ColdStore store = Twins.steady(2000);
         store.addPallet(0, 0);
         Twins.passTo(store, 959);
         store.order(0, 1, 0, 960);
@@ -509,7 +497,7 @@ public final class TickEdgesTest {
 
     private static void justEnoughCandidates() {
         for (int count = 1; count <= 8; count++) {
-            ColdStore store = steady(2000, 2000);
+            ColdStore store = Twins.steady(2000, 2000);
             for (int pallet = 0; pallet < count; pallet++) {
                 store.addPallet(0, 0);
             }
@@ -529,7 +517,7 @@ public final class TickEdgesTest {
     }
 
     private static void justEnoughLife() {
-        ColdStore store = steady(100);
+        ColdStore store = Twins.steady(100);
         store.addPallet(0, 0);
         store.order(0, 1, 91, 10);
         store.order(0, 1, 90, 10);
@@ -539,7 +527,7 @@ public final class TickEdgesTest {
     }
 
     private static void dueInTheOrderOfNumbers() {
-        ColdStore store = steady(100);
+        ColdStore store = Twins.steady(100);
         for (int pallet = 0; pallet < 5; pallet++) {
             store.addPallet(0, 0);
         }
@@ -555,7 +543,7 @@ public final class TickEdgesTest {
     }
 
     private static void closedOrdersAreLeft() {
-        ColdStore store = steady(100);
+        ColdStore store = Twins.steady(100);
         for (int pallet = 0; pallet < 8; pallet++) {
             store.addPallet(0, 0);
         }

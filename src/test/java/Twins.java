@@ -109,6 +109,18 @@ final class Twins {
         return store;
     }
 
+    /** Two rooms that stay at 0, and kinds with the full lives given, which lose one unit in each tick. */
+    static ColdStore steady(int... lives) {
+        ColdStore store = new ColdStore();
+        store.setOutside(0);
+        store.addRoom(1, 1, 1);
+        store.addRoom(1, 1, 1);
+        for (int life : lives) {
+            store.addKind(life, 10, -10);
+        }
+        return store;
+    }
+
     /** The rooms, kinds, pallets and orders of the busy store, at a time that is later than 2. */
     static ColdStore busyAt(int time) {
         ColdStore store = busy();
