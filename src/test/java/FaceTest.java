@@ -9,42 +9,42 @@ import java.util.TreeSet;
 public final class FaceTest {
     private static final String[] FACE = {
         "boolean isConsistent()",
-        "boolean isCooled(int)",
-        "char orderState(int)",
-        "char setMode(int,char)",
-        "char state(int)",
-        "double meanTemperature(int)",
-        "float lostShare()",
-        "int addKind(int,int,int)",
-        "int addPallet(int,int)",
-        "int addRoom(int,int,int)",
-        "int cancel(int)",
-        "int candidateAt(int,int)",
-        "int candidates(int)",
-        "int forecast(int,int)",
-        "int freeSpace(int)",
+        "boolean isCooled(int) throws IndexOutOfBoundsException",
+        "char orderState(int) throws IndexOutOfBoundsException",
+        "char setMode(int,char) throws IndexOutOfBoundsException,IllegalArgumentException",
+        "char state(int) throws IndexOutOfBoundsException",
+        "double meanTemperature(int) throws IndexOutOfBoundsException,ArithmeticException",
+        "float lostShare() throws ArithmeticException",
+        "int addKind(int,int,int) throws IllegalArgumentException,IllegalStateException",
+        "int addPallet(int,int) throws IndexOutOfBoundsException,IllegalStateException",
+        "int addRoom(int,int,int) throws IllegalArgumentException,IllegalStateException",
+        "int cancel(int) throws IndexOutOfBoundsException,IllegalStateException",
+        "int candidateAt(int,int) throws IndexOutOfBoundsException,NoSuchElementException",
+        "int candidates(int) throws IndexOutOfBoundsException",
+        "int forecast(int,int) throws IndexOutOfBoundsException,NoSuchElementException,IllegalArgumentException",
+        "int freeSpace(int) throws IndexOutOfBoundsException",
         "int greatestPower()",
-        "int leastShipped(int)",
-        "int life(int)",
-        "int lifeByRecords(int)",
-        "int movePallet(int,int)",
+        "int leastShipped(int) throws IndexOutOfBoundsException,NoSuchElementException",
+        "int life(int) throws IndexOutOfBoundsException",
+        "int lifeByRecords(int) throws IndexOutOfBoundsException",
+        "int movePallet(int,int) throws IndexOutOfBoundsException,NoSuchElementException,IllegalStateException",
         "int now()",
-        "int order(int,int,int,int)",
+        "int order(int,int,int,int) throws IndexOutOfBoundsException,IllegalArgumentException,IllegalStateException",
         "int pallets()",
-        "int pass(int)",
+        "int pass(int) throws IllegalArgumentException,IllegalStateException",
         "int power()",
-        "int roomOf(int)",
-        "int scrap(int)",
-        "int setCharge(int)",
-        "int setLead(int,int,int)",
-        "int setLimits(int,int,int)",
-        "int setOutside(int)",
-        "int setPowerLimit(int)",
-        "int setPrices(int,int,int,int)",
-        "int ship(int)",
-        "int soonest()",
-        "int temperature(int)",
-        "int warmest(int)",
+        "int roomOf(int) throws IndexOutOfBoundsException,NoSuchElementException",
+        "int scrap(int) throws IndexOutOfBoundsException,NoSuchElementException",
+        "int setCharge(int) throws IllegalArgumentException",
+        "int setLead(int,int,int) throws IndexOutOfBoundsException,IllegalArgumentException",
+        "int setLimits(int,int,int) throws IndexOutOfBoundsException,IllegalArgumentException",
+        "int setOutside(int) throws IllegalArgumentException",
+        "int setPowerLimit(int) throws IllegalArgumentException",
+        "int setPrices(int,int,int,int) throws IllegalArgumentException",
+        "int ship(int) throws IndexOutOfBoundsException,IllegalStateException,UnsupportedOperationException",
+        "int soonest() throws NoSuchElementException",
+        "int temperature(int) throws IndexOutOfBoundsException",
+        "int warmest(int) throws IndexOutOfBoundsException,NoSuchElementException",
         "long bill()",
         "long billByRecords()",
     };
@@ -90,6 +90,11 @@ public final class FaceTest {
         for (int i = 0; i < parameters.length; i++) {
             text.append(i == 0 ? "" : ",").append(parameters[i].getSimpleName());
         }
-        return text.append(')').toString();
+        text.append(')');
+        Class<?>[] exceptions = method.getExceptionTypes();
+        for (int i = 0; i < exceptions.length; i++) {
+            text.append(i == 0 ? " throws " : ",").append(exceptions[i].getSimpleName());
+        }
+        return text.toString();
     }
 }
